@@ -53,10 +53,13 @@ public final class BoxYard {
         if (asked == null) {
             return UNKNOWN;
         }
-        if (!isWithin(what, 0, 3)) {
-            return OUTSIDE;
+        switch (what) {
+            case 0: return asked.bears(yard.trace);
+            case 1: return asked.tall(yard.trace);
+            case 2: return asked.fee(yard.trace);
+            case 3: return counted(asked.watts(yard.trace));
+            default: return OUTSIDE;
         }
-        return counted(asked.bodyOf(what, yard.trace));
     }
 
     public int where(int box, int what) {
@@ -780,11 +783,7 @@ public final class BoxYard {
         }
 
         int known() {
-            return knownIf(weighed);
-        }
-
-        int knownIf(boolean wasWeighed) {
-            return wasWeighed ? real : told;
+            return weighed ? real : told;
         }
 
         boolean isWrong() {
@@ -805,15 +804,6 @@ public final class BoxYard {
         boolean isToComeTo(int ship) {
             boolean inIt = where == IN_SHIP && first == ship;
             return linkShip == ship && !inIt && where != GONE;
-        }
-
-        int bodyOf(int what, Trace trace) {
-            switch (what) {
-                case 0: return bears(trace);
-                case 1: return tall(trace);
-                case 2: return fee(trace);
-                default: return watts(trace);
-            }
         }
 
         int bears(Trace trace) {
@@ -869,10 +859,12 @@ public final class BoxYard {
                     trace.mark(23);
                     return boxFee(trace) + 10 * danger;
                 case OPEN:
-                    return openFee(trace);
+                    trace.mark(24);
+                    return 2 * boxFee(trace);
                 case HIGH:
                     trace.mark(25);
-                    return openFee(trace) + 30;
+                    trace.mark(24);
+                    return 2 * boxFee(trace) + 30;
                 case EMPTY:
                     trace.mark(26);
                     trace.mark(27);
@@ -885,11 +877,6 @@ public final class BoxYard {
         private int boxFee(Trace trace) {
             trace.mark(20);
             return known() / 10 + 5;
-        }
-
-        private int openFee(Trace trace) {
-            trace.mark(24);
-            return 2 * boxFee(trace);
         }
 
         int watts(Trace trace) {
@@ -949,11 +936,11 @@ public final class BoxYard {
         }
 
         boolean hasStack(int stack) {
-            return isWithin(stack, 0, stacks - 1);
+            return stack >= 0 && stack < stacks;
         }
 
         private boolean hasPlace(int stack, int place) {
-            return hasStack(stack) && isWithin(place, 0, heights[stack] - 1);
+            return stack >= 0 && stack < stacks && place >= 0 && place < heights[stack];
         }
 
         Box boxIn(int stack, int place) {
@@ -1809,7 +1796,7 @@ public final class BoxYard {
                     h = mixed(h, act.first);
                     h = mixed(h, act.second);
                     h = mixed(h, act.third);
-                    h = mixed(h, act.box.knownIf(act.weighed));
+                    h = mixed(h, act.weighed ? act.box.real : act.box.told);
                 }
             }
             for (int i = 0; i < yard.craneCount; i++) {
@@ -1878,6 +1865,8 @@ public final class BoxYard {
         private static final int DIGIT = 3, LANE = 15, OUT_AT = 60, OTHER = 6;
         private static final int LANE_MASK = 0x7FFF, DIGIT_MASK = 7;
         private static final int MOST_STATES = 1 << 20;
+        // Of one state: each STACK's TOP to each other STACK, and one of them out.
+        private static final int MOST_LIFTS = Digging.STACKS * (Digging.STACKS - 1) + 1;
         private static final long FACTOR = 0x9E3779B97F4A7C15L;
         // How much longer than its lower bound a row may be, in turn: few sweeps, the first ones small.
         private static final int[] SLACKS = {0, 1, 3, 6, MOST_STATES};
@@ -1930,13 +1919,16 @@ public final class BoxYard {
             size = 0;
             cut = false;
             goal = NONE;
-            keep(start, 0);
+            keep(start, 0, slotOf(start));
             int depth = 0;
             int depthEnd = size;
             for (int i = 0; i < MOST_STATES && i < size && goal < 0; i++) {
                 if (i == depthEnd) {
                     depth++;
                     depthEnd = size;
+                }
+                if (size + MOST_LIFTS > states.length) {
+                    grow();
                 }
                 spread(i, bound - depth - 1);
             }
@@ -1970,7 +1962,10 @@ public final class BoxYard {
         private void reach(long state, int step, int rest) {
             if (lowerBound(state) > rest) {
                 cut = true;
-            } else if (keep(state, step) && outOf(state) == wanted) {
+                return;
+            }
+            int slot = slotOf(state);
+            if (slots[slot] == 0 && keep(state, step, slot) && outOf(state) == wanted) {
                 goal = size - 1;
             }
         }
@@ -2005,16 +2000,9 @@ public final class BoxYard {
             return bound;
         }
 
-        /** Whether it was new. */
-        private boolean keep(long state, int step) {
-            if (size >= MOST_STATES) {
-                return false;
-            }
+        /** Whether there was room. */
+        private boolean keep(long state, int step, int slot) {
             if (size >= states.length) {
-                grow();
-            }
-            int slot = slotOf(state);
-            if (slots[slot] != 0) {
                 return false;
             }
             states[size] = state;
@@ -2127,24 +2115,20 @@ public final class BoxYard {
             }
             searches++;
             lifts = 0;
-            int fewest = wanted == 0 ? 0 : digOut(bay);
-            if (fewest >= 0) {
-                lifts = fewest;
-                dug = bay;
-            }
-            return fewest;
-        }
-
-        private int digOut(Bay bay) {
             if (search == null) {
                 search = new Search();
             }
-            int fewest = search.solve(bay, this);
+            int fewest = wanted == 0 ? 0 : search.solve(bay, this);
+            if (fewest < 0) {
+                return NONE;
+            }
             if (fewest > froms.length) {
                 froms = new int[fewest];
                 tos = new int[fewest];
             }
             search.writeRow(froms, tos, fewest);
+            lifts = fewest;
+            dug = bay;
             return fewest;
         }
 
@@ -2426,12 +2410,26 @@ public final class BoxYard {
             if (met != 0 || box == null) {
                 return met;
             }
-            int has = isWithin(a, 0, 3) ? box.bodyOf(a, yard.trace) : box.known();
-            if (has <= FINDING) {
-                return FINDING - has;
+            if (a == 3 && !box.isOf(Box.COLD)) {
+                return CAST;
             }
-            n += has;
-            return 0;
+            switch (a) {
+                case 0:
+                    n += box.bears(yard.trace);
+                    return 0;
+                case 1:
+                    n += box.tall(yard.trace);
+                    return 0;
+                case 2:
+                    n += box.fee(yard.trace);
+                    return 0;
+                case 3:
+                    n += box.watts(yard.trace);
+                    return 0;
+                default:
+                    n += box.known();
+                    return 0;
+            }
         }
 
         private int addOfCrane(int a) {

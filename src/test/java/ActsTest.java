@@ -79,6 +79,17 @@ public final class ActsTest {
     x.wind(60);
     Check.due("RULE 6 is first", x.go(0, 9), -46);
     Check.due("FAILS of the middle one", x.look(2, 3), 6);
+    for (int rail = 0; rail <= 2; rail++) {
+      BoxYard y = new BoxYard();
+      y.crane(2, rail, 3);
+      y.crane(1, rail, 4);
+      Check.due("onto the one behind", y.go(0, 4), -47);
+      Check.due("onto the one before", y.go(1, 3), -47);
+      Check.due("over the one behind", y.go(0, 9), -47);
+      Check.due("another one there", y.crane(0, rail, 4), -47);
+      Check.due("away", y.go(1, 9), 1);
+      Check.due("after it", y.go(0, 8), 2);
+    }
   }
 
   /** Promise 17. */
@@ -184,6 +195,12 @@ public final class ActsTest {
     act(x, "NO BAY", x.lift(1, 0), -61, 50, 57);
     Check.due("found NO BAY", x.found(1), 1);
     act(x, "QUAY", x.lift(0, 0), 4, 52, 51, 62, 61, 42, 41);
+    x.drop(0);
+    x.box(0, 10, 200, 0, 0);
+    x.take(0, 1);
+    x.set(0, 0);
+    x.go(1, 0);
+    act(x, "as much as its LOAD", x.lift(1, 0), 9, 50, 57, 64, 44);
   }
 
   /** Promise 19: what has a place, and what has none. */
@@ -361,6 +378,33 @@ public final class ActsTest {
     x.set(0, 3);
     x.take(0, x.box(0, 1, 1, 3, 0));
     Check.due("of its own DANGER", x.may(0, 0), -44);
+    everyPairOfDangers();
+  }
+
+  private static void everyPairOfDangers() {
+    for (int told = 1; told <= 4; told++) {
+      for (int other = 1; other <= 4; other++) {
+        BoxYard x = new BoxYard();
+        x.bay(0, 0, 22);
+        x.crane(0, 0, 0);
+        for (int danger = 0; danger <= 4; danger++) x.box(0, 1, 1, danger, 0);
+        for (int danger = 0; danger <= 4; danger++) x.box(0, 1, 1, danger, 0);
+        x.apart(told, other, 1);
+        for (int there = 0; there <= 4; there++) {
+          x.take(0, there);
+          x.set(0, 0);
+          for (int comes = 0; comes <= 4; comes++) {
+            x.take(0, 5 + comes);
+            boolean near = (there == told && comes == other) || (there == other && comes == told);
+            Check.due("a " + comes + " to a " + there, x.may(0, 0), near ? -44 : 0);
+            Check.due("beside it", x.may(0, 1), 0);
+            x.undo();
+          }
+          x.lift(0, 0);
+          x.drop(0);
+        }
+      }
+    }
   }
 
   /** RULE 5 can't be broken (what is HIGH bears none), but its TALL is asked from place 0 on, then of the new one. */

@@ -88,6 +88,8 @@ public final class BaysTest {
     for (int d = 1; d <= 4; d++) for (int e = d; e <= 4; e++) Check.due("apart", x.apart(d, e, n++ % 7), 0);
     n = 0;
     for (int d = 1; d <= 4; d++) for (int e = d; e <= 4; e++) Check.due("the other way round", x.apart(e, d, n % 7), n++ % 7);
+    n = 0;
+    for (int d = 1; d <= 4; d++) for (int e = d; e <= 4; e++) Check.due("and this way", x.apart(d, e, n % 7), n++ % 7);
     int[] bad = {Integer.MIN_VALUE, -1, 0, 5, Integer.MAX_VALUE};
     for (int w : bad) {
       Check.due("danger " + w, x.apart(w, 1, 1), -2);

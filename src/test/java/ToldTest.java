@@ -407,6 +407,29 @@ public final class ToldTest {
     fill(x);
     fill(y);
     Check.dues("filled again", asked(x), asked(y));
+    fill(x);
+    x.clear();
+    lay(x);
+    lay(y);
+    Check.dues("laid anew", asked(x), asked(y));
+  }
+
+  /** The same things as fill() has, with nothing done to them. */
+  private static void lay(BoxYard x) {
+    x.bay(0, 0, 222);
+    x.crane(1, 0, 0);
+    x.crane(0, 0, 5);
+    x.ship(2, 2, 2, 0);
+    for (int i = 0; i < 8; i++) x.box(0, 10, 20, 0, 0);
+    x.task();
+    x.run(0);
+    x.take(0, 7);
+    x.set(0, 1);
+    x.least(0);
+    x.want(7);
+    x.go(0, 1);
+    x.stable(0);
+    x.serve(0);
   }
 
   private static void fill(BoxYard x) {
