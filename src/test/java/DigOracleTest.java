@@ -20,19 +20,21 @@ public final class DigOracleTest {
 
   private static int one(Random chance, int run) {
     BoxYard x = new BoxYard();
-    int stacks = 1 + chance.nextInt(4);
+    // Two high STACKS with all six BOXES have the longest rows.
+    boolean longest = chance.nextInt(5) == 0;
+    int stacks = longest ? 2 : 1 + chance.nextInt(4);
     boolean tight = chance.nextInt(3) > 0;
     int[] heights = new int[stacks];
     int room = 0;
     int digits = 0;
     for (int s = stacks - 1; s >= 0; s--) {
-      heights[s] = 1 + chance.nextInt(tight ? 3 : 5);
+      heights[s] = longest ? 4 + chance.nextInt(2) : 1 + chance.nextInt(tight ? 3 : 5);
       room += heights[s];
       digits = digits * 10 + heights[s];
     }
     x.bay(0, 0, digits);
     x.crane(0, 0, 0);
-    int boxes = Math.min(room, 1 + chance.nextInt(6));
+    int boxes = longest ? 6 : Math.min(room, 1 + chance.nextInt(6));
     List<List<Integer>> where = new ArrayList<>();
     for (int s = 0; s < stacks; s++) where.add(new ArrayList<>());
     for (int b = 0; b < boxes; b++) {
@@ -46,7 +48,7 @@ public final class DigOracleTest {
     List<Integer> all = new ArrayList<>();
     for (int b = 0; b < boxes; b++) all.add(b);
     java.util.Collections.shuffle(all, chance);
-    int wanted = Math.min(boxes, 1 + chance.nextInt(5));
+    int wanted = longest ? 5 : Math.min(boxes, 1 + chance.nextInt(5));
     List<Integer> order = all.subList(0, wanted);
     for (int b : order) x.want(b);
     List<int[]> due = search(where, heights, order);

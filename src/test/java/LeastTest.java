@@ -106,7 +106,8 @@ public final class LeastTest {
     Check.due("STATE is ahead of FULL", x.least(0), -3);
     x.clear();
     x.bay(0, 0, 1);
-    Check.due("clear() begins again", x.least(0), 0);
+    for (int i = 0; i < 40; i++) Check.due("clear() begins again", x.least(0), 0);
+    Check.due("the 41st", x.least(0), -4);
   }
 
   private static void noWay() {
@@ -165,6 +166,12 @@ public final class LeastTest {
     Check.due("a long one", x.least(0), 9);
     row(x, 0, 1, 0, 1, 0, -9, 1, -9, 1, -9, 1, 0, 1, 0, 1, -9, 0, -9);
     Check.due("it holds", x.holds(), 1);
+    x = yard(55, new int[] {1}, new int[] {0, 2, 4, 5, 3});
+    want(x, 0, 1, 2, 3, 4);
+    Check.due("a longer one", x.least(0), 19);
+    Check.due("LIFTS", x.count(8), 19);
+    Check.due("it holds", x.holds(), 1);
+    Check.due("its last LIFT", x.row(18, 1), -9);
   }
 
   /** Promise 35. */
@@ -227,6 +234,7 @@ public final class LeastTest {
     want(x, 0);
     holds(x, 0, "LIFTS behind the last one", 0, 2, 0, -9, 1, 0, 1, 3);
     holds(x, 1, "a longer way", 0, 2, 2, 3, 3, 2, 0, -9);
+    holds(x, 0, "over a full one", 0, 1, 1, 3, 3, 2, 0, -9);
     want(x, 0, 2, 1);
     holds(x, 0, "one of THE ORDER is in it still", 0, 2, 0, -9, 1, 0, 1, -9);
     want(x);
@@ -239,6 +247,13 @@ public final class LeastTest {
   }
 
   private static void holdingAsItIsNow() {
+    BoxYard fresh = new BoxYard();
+    fresh.bay(3, 0, 1);
+    fresh.least(3);
+    Check.due("THE ORDER is empty, and THE ROW is", fresh.holds(), 1);
+    fresh.box(0, 1, 1, 0, 0);
+    fresh.want(0);
+    Check.due("it is not in that BAY", fresh.holds(), 0);
     BoxYard x = yard(2222, new int[] {0, 1}, new int[] {2, 3});
     want(x, 0);
     x.least(0);
