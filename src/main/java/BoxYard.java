@@ -1473,7 +1473,7 @@ public final class BoxYard {
             }
         }
 
-        /** RULE 7 for a CRANE at a PLACE of a RAIL: those before it came before it. */
+        /** RULE 7 for a CRANE at a PLACE of a RAIL: those that came before it stand before it. */
         boolean hasRoomOnRail(int rail, int crane, int place) {
             if (!isWithin(rail, 0, RAILS - 1)) {
                 return true;

@@ -410,8 +410,9 @@ public final class ToldTest {
     fill(x);
     x.clear();
     lay(x);
-    lay(y);
-    Check.dues("laid anew", asked(x), asked(y));
+    BoxYard z = new BoxYard();
+    lay(z);
+    Check.dues("laid anew", asked(x), asked(z));
   }
 
   /** The same things as fill() has, with nothing done to them. */
@@ -444,11 +445,11 @@ public final class ToldTest {
     x.route(0, 3);
     x.route(0, 4);
     for (int i = 0; i < 7; i++) x.box(i % 6, 10, 20, i % 2, 4);
-    x.plan(0, 0, 1, 1, 0);
+    x.plan(0, 0, 0, 0, 0);
     x.plan(1, 0, 1, 1, 3);
     x.take(0, 0);
     x.load(0);
-    x.fetch(0, 0, 1, 1);
+    x.fetch(0, 0, 0, 0);
     x.load(0);
     x.take(0, 1);
     x.set(0, 0);
