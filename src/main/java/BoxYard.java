@@ -2289,8 +2289,12 @@ public final class BoxYard {
             if (depth > OPS) {
                 return 0;
             }
-            int next;
-            for (int at = from; at < end; at = next) {
+            int next = from;
+            for (int at = from; at < end; at++) {
+                // What stands among the OPS of a TRY or a LAST was worked with it.
+                if (at < next) {
+                    continue;
+                }
                 int met;
                 next = at + 1;
                 began++;

@@ -397,22 +397,27 @@ public final class ToldTest {
     Check.due("NUMBERS go on", x.go(0, 1), 2);
   }
 
-  /** Everything that can be told, then clear(): each call answers as a new object's does. */
+  /** Everything that can be told, then clear(): each call answers as a new object's does, and again when it is filled anew. */
   private static void clearOfAll() {
+    BoxYard x = cleared();
+    Check.dues("behind clear()", asked(x), asked(new BoxYard()));
+    BoxYard y = cleared();
+    BoxYard fresh = new BoxYard();
+    fill(y);
+    fill(fresh);
+    Check.dues("filled again", asked(y), asked(fresh));
+    BoxYard z = cleared();
+    fresh = new BoxYard();
+    lay(z);
+    lay(fresh);
+    Check.dues("laid anew", asked(z), asked(fresh));
+  }
+
+  private static BoxYard cleared() {
     BoxYard x = new BoxYard();
     fill(x);
     Check.due("clear", x.clear(), 7);
-    BoxYard y = new BoxYard();
-    Check.dues("behind clear()", asked(x), asked(y));
-    fill(x);
-    fill(y);
-    Check.dues("filled again", asked(x), asked(y));
-    fill(x);
-    x.clear();
-    lay(x);
-    BoxYard z = new BoxYard();
-    lay(z);
-    Check.dues("laid anew", asked(x), asked(z));
+    return x;
   }
 
   /** The same things as fill() has, with nothing done to them. */
