@@ -2296,7 +2296,6 @@ public final class BoxYard {
                     continue;
                 }
                 int met;
-                next = at + 1;
                 began++;
                 if (kinds[at] == TRY) {
                     next = behind(at + 1, as[at], end);

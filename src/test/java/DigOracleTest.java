@@ -15,25 +15,31 @@ public final class DigOracleTest {
     int none = 0;
     for (int i = 0; i < 3000; i++) none += one(chance, i);
     Check.that("some bays have no way: " + none, none > 10);
+    widest();
     Check.end();
   }
 
+  /** Bays whose searches go through the most states, with a way and with none. */
+  private static void widest() {
+    int found = beside("wide", new int[] {4, 4, 3, 2}, List.of(List.of(0, 1, 2, 4), List.of(5), List.of(3), List.of()), List.of(0, 3, 5, 4, 2));
+    found += beside("wide", new int[] {4, 3, 1, 4}, List.of(List.of(0, 1, 2, 3), List.of(4), List.of(), List.of(5)), List.of(0, 5, 4, 3, 2));
+    Check.due("ways that are none", found, 0);
+    found = beside("no way", new int[] {1, 1, 5, 2}, List.of(List.of(5), List.of(0), List.of(3, 4), List.of(1, 2)), List.of(3, 0, 4, 1, 5));
+    found += beside("no way", new int[] {2, 5, 2}, List.of(List.of(0), List.of(1, 4, 5), List.of(2, 3)), List.of(1, 0, 2, 5, 3));
+    Check.due("ways that are none", found, 2);
+  }
+
   private static int one(Random chance, int run) {
-    BoxYard x = new BoxYard();
     // Two high STACKS with all six BOXES have the longest rows.
     boolean longest = chance.nextInt(5) == 0;
     int stacks = longest ? 2 : 1 + chance.nextInt(4);
     boolean tight = chance.nextInt(3) > 0;
     int[] heights = new int[stacks];
     int room = 0;
-    int digits = 0;
     for (int s = stacks - 1; s >= 0; s--) {
       heights[s] = longest ? 4 + chance.nextInt(2) : 1 + chance.nextInt(tight ? 3 : 5);
       room += heights[s];
-      digits = digits * 10 + heights[s];
     }
-    x.bay(0, 0, digits);
-    x.crane(0, 0, 0);
     int boxes = longest ? 6 : Math.min(room, 1 + chance.nextInt(6));
     List<List<Integer>> where = new ArrayList<>();
     for (int s = 0; s < stacks; s++) where.add(new ArrayList<>());
@@ -41,18 +47,31 @@ public final class DigOracleTest {
       int s = chance.nextInt(stacks);
       while (where.get(s).size() >= heights[s]) s = (s + 1) % stacks;
       where.get(s).add(b);
-      x.box(0, 1, 1, 0, 0);
-      x.take(0, b);
-      Check.that("run " + run + ": the box was set", x.set(0, s) > 0);
     }
     List<Integer> all = new ArrayList<>();
     for (int b = 0; b < boxes; b++) all.add(b);
     java.util.Collections.shuffle(all, chance);
     int wanted = longest ? 5 : Math.min(boxes, 1 + chance.nextInt(5));
-    List<Integer> order = all.subList(0, wanted);
+    return beside("run " + run, heights, where, all.subList(0, wanted));
+  }
+
+  /** least() and its row beside the plain search: 1 if there is no way. */
+  private static int beside(String run, int[] heights, List<List<Integer>> where, List<Integer> order) {
+    BoxYard x = new BoxYard();
+    int digits = 0;
+    for (int s = heights.length - 1; s >= 0; s--) digits = digits * 10 + heights[s];
+    x.bay(0, 0, digits);
+    x.crane(0, 0, 0);
+    for (List<Integer> stack : where) for (int b : stack) x.box(0, 1, 1, 0, 0);
+    for (int s = 0; s < heights.length; s++) {
+      for (int b : where.get(s)) {
+        x.take(0, b);
+        Check.that(run + ": the box was set", x.set(0, s) > 0);
+      }
+    }
     for (int b : order) x.want(b);
     List<int[]> due = search(where, heights, order);
-    String told = "run " + run + " " + where + " heights " + digits + " order " + order;
+    String told = run + " " + where + " heights " + digits + " order " + order;
     int least = x.least(0);
     Check.due(told + " least", least, due == null ? -9 : due.size());
     Check.due(told + " count(8)", x.count(8), due == null ? 0 : due.size());

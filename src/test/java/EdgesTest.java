@@ -14,6 +14,7 @@ public final class EdgesTest {
     reaches();
     ships();
     rulesOfShips();
+    linksOfAll();
     actsAndFails();
     weighing();
     theJournal();
@@ -315,6 +316,25 @@ public final class EdgesTest {
     x.serve(0);
     edges("behind the one that is SERVED: not that one", of(x.fetch(0, 0, 0, 0), x.sum(0, 4)), 12, 0);
     edges("RULE 11 (its PLACE is not the SHIP's BERTH)", of(x.go(0, 1), x.load(0), x.go(0, 0), x.load(0)), 13, -51, 14, 15);
+  }
+
+  /** LINKS of all 80 BOXES, told anew again and again: each is told once, as the latest. */
+  private static void linksOfAll() {
+    BoxYard x = new BoxYard();
+    x.ship(6, 3, 3, 0);
+    for (int i = 0; i < 80; i++) x.box(0, 1, 1, 0, 0);
+    for (int i = 0; i < 80; i++) x.plan(i, 0, i % 6, i / 6 % 3, i / 18);
+    edges("in the order in which their LINKS were told: 54 places, then BEYOND", of(x.stable(0), x.broke(0), x.broke(1), x.broke(2)), 0, 54, 54, -62);
+    for (int i = 0; i < 80; i++) x.plan(i, 0, i % 6, i / 6 % 3, i / 18);
+    for (int i = 60; i < 80; i++) x.plan(i, -9, 0, 0, 0);
+    edges("in place of one", of(x.stable(0), x.broke(0), x.broke(1)), 0, 54, 54);
+    x.plan(0, 0, 0, 0, 0);
+    edges("told now, as the latest", of(x.stable(0), x.broke(0), x.broke(1), x.broke(2)), 0, 18, 17, -52);
+    for (int i = 1; i < 60; i++) x.plan(i, 0, i % 6, i / 6 % 3, i / 18);
+    edges("told now, as the latest", of(x.stable(0), x.broke(0), x.broke(1)), 0, 54, 54);
+    for (int i = 54; i < 60; i++) x.plan(i, -9, 0, 0, 0);
+    edges("STABLE as told: all 54 places", of(x.stable(0), x.broke(0), x.broke(1), x.broke(2)), 1, -9, -9, -9);
+    edge("RULE 12 of one more", x.plan(54, 0, 0, 0, 2) + x.stable(0) + 10 * x.broke(1) + x.broke(2), 1 + 540 - 52);
   }
 
   /** 5 ACTS, promises 16 to 23. */
